@@ -1,0 +1,4 @@
+public final class PromisesTest {
+    public static void main(String[] args) {
+    }
+}
