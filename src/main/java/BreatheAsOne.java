@@ -77,6 +77,8 @@ public final class BreatheAsOne {
     // No token: the minus of one number, as a step of a law's code.
     private static final int NEGATE = 45;
 
+    // A token, and a step of a law's code, is an int: its kind below, a number's value above.
+    private static final int KIND_BITS = 6;
     private static final int FIRST_NAME = BEAT;
     private static final int NAMES = 10;
 
@@ -695,12 +697,12 @@ public final class BreatheAsOne {
         private static final int MOST_NUMBER = 9999;
         private static final int DEEPEST = 8;
 
-        private byte[] tape = null;
-        private int length = 0;
+        // A token's kind, a number's value above it, and where each token begins; the end of the text is the last one.
+        private final int[] tokens = new int[MOST_BYTES + 1];
+        private final int[] places = new int[MOST_BYTES + 1];
         private int at = 0;
         private int kind = END;
         private int value = 0;
-        private int place = 0;
         private final int[] code = new int[MOST_BYTES];
         private int codeLength = 0;
         private int law = ODD;
@@ -714,10 +716,7 @@ public final class BreatheAsOne {
         int faultPlace = NONE;
 
         /** The text on the tape; null if it has a fault. */
-        Text read(byte[] bytes, int bytesLength) {
-            tape = bytes;
-            length = Math.min(bytesLength, bytes.length);
-            at = 0;
+        Text read(byte[] tape, int length) {
             breath = null;
             passes = null;
             holds = null;
@@ -725,7 +724,8 @@ public final class BreatheAsOne {
             hasRead = true;
             fault = 0;
             faultPlace = NONE;
-            next();
+            scan(tape, Math.min(length, MOST_BYTES));
+            goTo(0);
             for (int i = 0; i <= MOST_CLAUSES && kind != END; i++) {
                 if (!readClause()) {
                     return null;
@@ -735,21 +735,132 @@ public final class BreatheAsOne {
             return new Text(breath, passes, holds, kept, clauseCount);
         }
 
+        private void scan(byte[] tape, int length) {
+            int count = 0;
+            int from = 0;
+            for (int i = 0; i < MOST_BYTES && from < length; i++) {
+                int to = endOfToken(tape, from, length);
+                if (tape[from] != ' ' && tape[from] != '\n') {
+                    tokens[count] = tokenOf(tape, from, to);
+                    places[count] = from;
+                    count++;
+                }
+                from = to;
+            }
+            tokens[count] = END;
+            places[count] = length;
+        }
+
+        private static int endOfToken(byte[] tape, int from, int length) {
+            int to = from + 1;
+            if (isLetter(tape[from])) {
+                while (to < length && isLetter(tape[to])) {
+                    to++;
+                }
+            } else if (isDigit(tape[from])) {
+                while (to < length && isDigit(tape[to])) {
+                    to++;
+                }
+            } else if ((tape[from] == '<' || tape[from] == '>') && to < length && tape[to] == '=') {
+                to++;
+            }
+            return to;
+        }
+
+        private static int tokenOf(byte[] tape, int from, int to) {
+            if (isLetter(tape[from])) {
+                return wordOf(tape, from, to);
+            }
+            if (isDigit(tape[from])) {
+                return NUMBER + (numberOf(tape, from, to) << KIND_BITS);
+            }
+            if (to > from + 1) {
+                return tape[from] == '<' ? AT_MOST : AT_LEAST;
+            }
+            int sign = SIGNS.indexOf((char) (tape[from] & 255));
+            return sign < 0 ? ODD : PLUS + sign;
+        }
+
+        private static int wordOf(byte[] tape, int from, int to) {
+            int word = BEAT;
+            int matched = from;
+            for (int i = 0; i < WORDS.length(); i++) {
+                char wanted = WORDS.charAt(i);
+                if (wanted != ' ') {
+                    // Beyond the token's end once a letter is unlike, so that the word is not taken.
+                    matched = matched < to && tape[matched] == wanted ? matched + 1 : to + 1;
+                } else if (matched == to) {
+                    return word;
+                } else {
+                    word++;
+                    matched = from;
+                }
+            }
+            return ODD;
+        }
+
+        private static int numberOf(byte[] tape, int from, int to) {
+            int number = 0;
+            for (int i = from; i < to; i++) {
+                number = Math.min(number * 10 + tape[i] - '0', MOST_NUMBER + 1);
+            }
+            return number;
+        }
+
+        private static boolean isLetter(int sign) {
+            return sign >= 'a' && sign <= 'z' || sign >= 'A' && sign <= 'Z';
+        }
+
+        private static boolean isDigit(int sign) {
+            return sign >= '0' && sign <= '9';
+        }
+
+        private void goTo(int token) {
+            if (token >= 0 && token < tokens.length) {
+                at = token;
+                kind = tokens[token] & (1 << KIND_BITS) - 1;
+                value = tokens[token] >> KIND_BITS;
+            }
+        }
+
+        /** True always, so that it can stand among what has to be so. */
+        private boolean next() {
+            goTo(at + 1);
+            return true;
+        }
+
+        private boolean expect(int wanted) {
+            return kind == wanted ? next() : refuse(1);
+        }
+
+        private boolean refuse(int number) {
+            fault = number;
+            faultPlace = places[at];
+            return false;
+        }
+
         private boolean readClause() {
-            int form = formOf(kind);
-            boolean isLaw = kind == BREATH || kind == PASSES || kind == HOLDS;
+            int word = kind;
+            int form = formOf(word);
+            boolean isLaw = word == BREATH || word == PASSES || word == HOLDS;
             if (!isLaw && form < 0) {
                 return refuse(1);
             }
-            if (isLaw && lawOf(kind) != null) {
+            if (isLaw && lawOf(word) != null) {
                 return refuse(4);
             }
             if (clauseCount >= MOST_CLAUSES) {
                 return refuse(6);
             }
-            clauses[clauseCount * Text.WIDTH] = kind;
-            if (!(isLaw ? readLaw() : readNumbers(form))) {
+            clauses[clauseCount * Text.WIDTH] = word;
+            law = word;
+            codeLength = 0;
+            boolean fine = !isLaw ? readNumbers(form) : next() && (word == HOLDS ? readEither() : readSum(0));
+            if (!fine) {
                 return false;
+            }
+            if (isLaw) {
+                keepLaw();
             }
             clauseCount++;
             return expect(SEMICOLON);
@@ -787,13 +898,7 @@ public final class BreatheAsOne {
             return true;
         }
 
-        private boolean readLaw() {
-            law = kind;
-            codeLength = 0;
-            next();
-            if (!(law == HOLDS ? readEither() : readSum(0))) {
-                return false;
-            }
+        private void keepLaw() {
             int[] kept = Arrays.copyOf(code, codeLength);
             if (law == BREATH) {
                 breath = kept;
@@ -802,7 +907,6 @@ public final class BreatheAsOne {
             } else {
                 holds = kept;
             }
-            return true;
         }
 
         /** An or waits until what is joined by and behind it has been read. */
@@ -881,7 +985,7 @@ public final class BreatheAsOne {
 
         private boolean readOne(int depth) {
             if (kind == NUMBER) {
-                return value > MOST_NUMBER ? refuse(2) : emit(NUMBER + (value << Breathing.KIND_BITS)) && next();
+                return value > MOST_NUMBER ? refuse(2) : emit(NUMBER + (value << KIND_BITS)) && next();
             }
             if (within(kind, FIRST_NAME, FIRST_NAME + NAMES - 1)) {
                 return isNameOfLaw(kind) ? emit(kind) && next() : refuse(5);
@@ -921,87 +1025,10 @@ public final class BreatheAsOne {
             }
             return true;
         }
-
-        private boolean expect(int wanted) {
-            return kind == wanted ? next() : refuse(1);
-        }
-
-        private boolean refuse(int number) {
-            fault = number;
-            faultPlace = place;
-            return false;
-        }
-
-        private boolean next() {
-            while (at < length && (tape[at] == ' ' || tape[at] == '\n')) {
-                at++;
-            }
-            place = at;
-            if (at >= length) {
-                kind = END;
-            } else if (isLetter(tape[at])) {
-                nextWord();
-            } else if (isDigit(tape[at])) {
-                nextNumber();
-            } else {
-                nextSign();
-            }
-            return true;
-        }
-
-        private static boolean isLetter(int sign) {
-            return sign >= 'a' && sign <= 'z' || sign >= 'A' && sign <= 'Z';
-        }
-
-        private static boolean isDigit(int sign) {
-            return sign >= '0' && sign <= '9';
-        }
-
-        private void nextNumber() {
-            kind = NUMBER;
-            value = 0;
-            while (at < length && isDigit(tape[at])) {
-                value = Math.min(value * 10 + tape[at] - '0', MOST_NUMBER + 1);
-                at++;
-            }
-        }
-
-        private void nextSign() {
-            int sign = SIGNS.indexOf((char) (tape[at] & 255));
-            kind = sign < 0 ? ODD : PLUS + sign;
-            at++;
-            if ((kind == BELOW || kind == ABOVE) && at < length && tape[at] == '=') {
-                kind = kind == BELOW ? AT_MOST : AT_LEAST;
-                at++;
-            }
-        }
-
-        private void nextWord() {
-            while (at < length && isLetter(tape[at])) {
-                at++;
-            }
-            kind = ODD;
-            int word = BEAT;
-            int matched = place;
-            for (int i = 0; i < WORDS.length(); i++) {
-                char wanted = WORDS.charAt(i);
-                if (wanted != ' ') {
-                    // Beyond the token's end once a letter is unlike, so that the word is not taken.
-                    matched = matched < at && tape[matched] == wanted ? matched + 1 : at + 1;
-                } else if (matched == at) {
-                    kind = word;
-                    return;
-                } else {
-                    word++;
-                    matched = place;
-                }
-            }
-        }
     }
 
     /** Times, breaths, air and what the laws say of them. */
     private static final class Breathing {
-        static final int KIND_BITS = 6;
         private static final int MOST_WORTH = 1000000;
         private static final int MOST_STACK = 64;
         private static final int MOST_BREATH = 9;
@@ -1077,7 +1104,9 @@ public final class BreatheAsOne {
             if (seat == NONE) {
                 return 0;
             }
-            namePerson(person, moment.beat, timeNow(person, moment.beat), seat, moment.how[person]);
+            int how = moment.how[person];
+            int time = timeAs(person, moment.beat, seat, how, moment.ushers, house.start[person]);
+            namePerson(person, moment.beat, time, seat, how);
             return Math.max(0, Math.min(10, worth(text.passes)));
         }
 
@@ -1146,7 +1175,9 @@ public final class BreatheAsOne {
                     stack[top - 1] = 1 - stack[top - 1];
                 } else if (kind == MIDDLE && top > 2) {
                     top -= 2;
-                    stack[top - 1] = middle(stack[top - 1], stack[top], stack[top + 1]);
+                    int least = Math.min(stack[top - 1], stack[top]);
+                    int greatest = Math.max(stack[top - 1], stack[top]);
+                    stack[top - 1] = Math.max(least, Math.min(greatest, stack[top + 1]));
                 } else if (top > 1) {
                     top--;
                     long joined = joined(kind, stack[top - 1], stack[top]);
@@ -1154,10 +1185,6 @@ public final class BreatheAsOne {
                 }
             }
             return top > 0 ? stack[top - 1] : 0;
-        }
-
-        private static int middle(int a, int b, int c) {
-            return Math.max(Math.min(a, b), Math.min(Math.max(a, b), c));
         }
 
         private static long joined(int kind, int a, int b) {
@@ -1348,6 +1375,7 @@ public final class BreatheAsOne {
         private final Breathing breathing;
         private final int[] airs = new int[MOST_NOTES];
         // At one note's beat: a block's air without and with an usher, what a person changes by being otherwise.
+        // There 0 and -1 stand for ushers nowhere and in all blocks.
         private final int[] blockAir = new int[2 * BLOCKS];
         private final int[] changes = new int[2 * MOST_PEOPLE];
 
@@ -1793,7 +1821,8 @@ public final class BreatheAsOne {
             for (int person = 0; person < house.peopleCount; person++) {
                 int seat = moment.seatOf[person];
                 if (!has(people, person) && seat != NONE && !has(seats, seat)) {
-                    air += breathing.breathNow(person, beat);
+                    air += breathing.breathAs(person, beat, seat, moment.how[person], moment.ushers,
+                            house.start[person]);
                 }
             }
             return air;
