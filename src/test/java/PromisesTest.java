@@ -147,6 +147,9 @@ public final class PromisesTest {
             {"note 10000 high", 2005}, {"note 0 high 100", 2012}, {"sit 10 on", 2004}, {"sit 0 on 10", 2009}, {"sit 0 1", 1006},
             {"usher 4;", 2006}, {"beat 0;", 2005}, {"beat 1000;", 2005}, {"cough 10;", 2006}, {"sleep -1;", 1006}, {"wake 10;", 2005},
             {"hold 10;", 2005}, {"air 1;", 1000}, {"7;", 1000}, {";", 1000}, {"breath 1;;", 1009}, {"breath 1!;", 1008},
+            {"beatz 1;", 1000}, {"beatZ 1;", 1000}, {"beat 1;abeat", 1007}, {"beat 1;Abeat 1;", 1007}, {"beats 1;", 1000}, {"bea 1;", 1000},
+            {"beat 0;", 2005}, {"beat 9;sleep 0;wake 0;hold 0;usher 0;cough 0;sit 0 on 0;seat 0 lag 0;note 0 high 0;", 0},
+            {"one 1 pulse 1 start 0;", 0}, {"breath 0;", 0}, {"breath 9999;", 0}, {"holds 1 or 2;", 1008}, {"holds 1=1 and or", 1014},
             {"breath\t1;", 1006}, {"beat 1;\u00e9", 1007}, {"beat 1 ", 1007}, {"breath 1%2/3*4-5+6;", 0},
         };
         for (Object[] row : rows) c.due("a fault of " + row[0], Checks.faultOf((String) row[0]), (Integer) row[1]);
@@ -155,6 +158,9 @@ public final class PromisesTest {
         c.due("25 clauses", Checks.faultOf(most + "beat 0;"), 6168);
         c.due("a 25th that is none", Checks.faultOf(most + "air 0;"), 1168);
         c.due("a 25th law again", Checks.faultOf("breath 1;" + "beat 1;".repeat(23) + "breath 1;"), 4170);
+        c.due("299 blanks and a token", Checks.faultOf(" ".repeat(299) + ";"), 1299);
+        c.due("300 bytes", Checks.faultOf("breath " + "1+".repeat(146) + ";"), 1299);
+        c.due("300 bytes", Checks.faultOf("passes " + "-1".repeat(146) + ";"), 0);
         c.due("a 25th law", Checks.faultOf("breath 1;" + "beat 1;".repeat(23) + "holds 1;"), 6170);
     }
 
@@ -510,6 +516,9 @@ public final class PromisesTest {
             {"breath -2*-3;", "6"}, {"breath 1+middle(chest,time,pulse)*2;", "5"},
         };
         for (String[] row : rows) c.due(row[0], hall(row[0]).of(0, 6), Integer.parseInt(row[1]));
+        String deep = "middle(0,9,1+1*".repeat(8) + "0" + ")".repeat(8);
+        c.due("the deepest", hall("breath 0+1*" + deep + ";").of(0, 6), 8);
+        c.due("the deepest", hall("holds 1=2 or 1=1 and 0-1=0-1*" + deep + "+7;").fell(), 0);
         BreatheAsOne x = hall("breath block*3+asleep;passes 1;");
         c.due("block", x.of(2, 6), 3);
         x.be(2, 1);
@@ -623,6 +632,17 @@ public final class PromisesTest {
         c.due("those that have one keep it", x.ushers(2), NONE);
         x = hall("holds air=4 or air=2;");
         c.due("of like ones the lowest", x.ushers(1), 1);
+        x = hall("holds block=9;");
+        c.due("no such law", x.about(6), NONE);
+        x = new BreatheAsOne();
+        for (int i = 0; i < 3; i++) {
+            x.seat(i, 1);
+            x.person(i == 2 ? 2 : 1, 1, 0);
+            x.sit(i, i);
+        }
+        x.note(0, 0);
+        // Each is out without an usher and in with one: both of 0 and 1 do, and 2 alone does.
+        c.due("the fewest ahead of the lowest", x.ushers(1), 4);
         c.promise(29);
         x = hall();
         c.due("cannot()", x.cannot(), 0);
@@ -931,6 +951,7 @@ public final class PromisesTest {
         x.beside(NONE, 0);
         x.beside(1, 2);
         x.seen(NONE, 0, 0);
+        x.seen(1, 3, -1);
         for (int i = 0; i < 40; i++) x.undo();
         x.beat(7);
         x.cough(2);
@@ -944,7 +965,14 @@ public final class PromisesTest {
         c.due("the fault is not of it", x.fault(0), 1);
         c.due("cough", x.coughs(0, 0), 1);
         c.due("at 4", x.coughs(0, 1), 4);
-        c.due("told", x.chairs(7, NONE, 0), 4);
+        c.due("0 beside 1: never 2 between", x.chairs(7, 2, 1), 0);
+        c.due("but 0", x.chairs(7, 0, 1), 2);
+        // Seen: 0 in at 0; by this law all breathe 1 but who coughs.
+        c.due("seen of 0", x.starts(0), (1 << 18) - 1);
+        x.by(NONE);
+        c.due("seen of 0 at 0: start less 2 is 0 or 1 by 4", x.starts(0), 0b001100110011001100);
+        c.due("of 1 nothing", x.starts(1), (1 << 18) - 1);
+        c.due("by(0)", x.by(0), true);
         c.due("THE TEXT", x.air(0), 3);
         x.person(1, 1, 1);
         c.due("a new one", x.of(3, 3), NONE);
