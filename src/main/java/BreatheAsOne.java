@@ -1477,7 +1477,7 @@ public final class BreatheAsOne {
             return true;
         }
 
-        /** Those that have an usher keep it; what is sought comes to these. */
+        /** The ushers there are now are left out of account: each set is looked at as if it were all. */
         int fewestUshers(int notes) {
             int sets = (1 << USHER_SETS) - 1;
             for (int note = 0; note < house.noteCount; note++) {
@@ -1487,8 +1487,7 @@ public final class BreatheAsOne {
             }
             int best = NONE;
             for (int set = 0; set < USHER_SETS; set++) {
-                boolean fits = (set & moment.ushers) == 0 && has(sets, set | moment.ushers);
-                if (fits && (best == NONE || Integer.bitCount(set) < Integer.bitCount(best))) {
+                if (has(sets, set) && (best == NONE || Integer.bitCount(set) < Integer.bitCount(best))) {
                     best = set;
                 }
             }

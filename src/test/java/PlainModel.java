@@ -436,13 +436,8 @@ final class PlainModel {
             for (int set = 0; set < 16; set++) {
                 if (Integer.bitCount(set) != size) continue;
                 State s = now.copy();
-                boolean more = true;
-                for (int b = 0; b < 4; b++) {
-                    if ((set >> b & 1) == 0) continue;
-                    more &= !s.usher[b];
-                    s.usher[b] = true;
-                }
-                if (more && (s.fell(s.law()) & notes) == 0) return set;
+                for (int b = 0; b < 4; b++) s.usher[b] = (set >> b & 1) != 0;
+                if ((s.fell(s.law()) & notes) == 0) return set;
             }
         }
         return -1;

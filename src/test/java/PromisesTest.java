@@ -626,10 +626,19 @@ public final class PromisesTest {
         c.due("ushers(4)", x.ushers(4), NONE);
         c.due("ushers(-1)", x.ushers(-1), NONE);
         x.usher(1, true);
-        c.due("those that have one aside", x.ushers(1), 1);
+        c.due("one that is there now is told, too", x.ushers(1), 3);
         x.usher(0, true);
-        c.due("both have one", x.ushers(1), 0);
-        c.due("those that have one keep it", x.ushers(2), NONE);
+        c.due("both that are there now are told", x.ushers(1), 3);
+        // At beat 3 with both: -5 3 -4; without any: 5 3 4.
+        c.due("it falls by those there are", x.fell() & 2, 2);
+        c.due("those there are do not count", x.ushers(2), 0);
+        c.due("none for no notes", x.ushers(0), 0);
+        c.due("both together never hold", x.ushers(3), NONE);
+        c.due("changes nothing", x.about(8), 3);
+        x = hall("holds air=4 or air=2;");
+        x.usher(1, true);
+        c.due("it holds by the one there is", x.fell() & 1, 0);
+        c.due("yet the lowest of like ones", x.ushers(1), 1);
         x = hall("holds air=4 or air=2;");
         c.due("of like ones the lowest", x.ushers(1), 1);
         x = hall("holds block=9;");
