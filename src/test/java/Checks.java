@@ -4,22 +4,30 @@ import java.nio.charset.StandardCharsets;
 final class Checks {
     private int wrong = 0;
     private int asked = 0;
-    private int promise = 0;
+    private int sentences = 0;
+    private String of = "";
 
-    void promise(int number) { promise = number; }
+    void promise(int number) { of = "promise " + number; }
+
+    /** What follows tests one sentence of the document; 0 is for words that stand ahead of the promises. */
+    void sentence(int promise, String words) {
+        sentences++;
+        of = (promise == 0 ? "terms" : "promise " + promise) + ", '" + words + "'";
+    }
 
     void due(String call, long got, long want) {
         asked++;
         if (got != want) {
             wrong++;
-            System.out.println("promise " + promise + ": " + call + " answered " + got + ", due is " + want);
+            System.out.println(of + ": " + call + " answered " + got + ", due is " + want);
         }
     }
 
     void due(String call, boolean got, boolean want) { due(call, got ? 1 : 0, want ? 1 : 0); }
 
     void finish() {
-        System.out.println(wrong == 0 ? asked + " answers are as due" : wrong + " of " + asked + " answers are not as due");
+        String tested = sentences == 0 ? "" : " (" + sentences + " sentences)";
+        System.out.println(wrong == 0 ? asked + " answers are as due" + tested : wrong + " of " + asked + " answers are not as due");
         if (wrong != 0) System.exit(1);
     }
 
