@@ -35,6 +35,8 @@ public final class EdgesGamesTest {
         duel("five each", sides(5, 5, 0, counts), 0, NONE);
         duel("five against four", sides(5, 4, 0, counts), 1, 0);
         duel("four against five", sides(4, 5, 0, counts), 0, NONE);
+        duel("six against four", sides(6, 4, 0, counts), 1, 0);
+        duel("four against six", sides(4, 6, 0, counts), 0, NONE);
         c.sentence(35, "who makes the NOTE FALL by it loses");
         duel("none may sleep", sides(2, 2, 4, counts), 0, NONE);
         duel("one may sleep", sides(2, 2, 3, counts), 1, 0);
@@ -271,6 +273,12 @@ public final class EdgesGamesTest {
         c.due("and in at 8: 2 .. 8", x.starts(0), 0x1fc);
         x.seen(0, 8, -1);
         c.due("both can't be", x.starts(0), 0);
+        x.seen(1, 0, -1);
+        c.due("of the other one", x.starts(1), 0x1ff);
+        x.seen(NONE, 0, 0);
+        x.seen(1, 0, -1);
+        c.due("of the other one alone", x.starts(1), 0x1ff);
+        c.due("so of this one nothing", x.starts(0), ALL_STARTS);
         c.sentence(40, "its SEAT, how it is as now");
         BreatheAsOne y = Halls.row(1, "");
         y.seen(0, 0, 0);
@@ -307,7 +315,8 @@ public final class EdgesGamesTest {
         x.change(1, 2);
         for (int i = 0; i < 3; i++) x.undo();
         x.beside(NONE, 0);
-        x.beside(2, 1);
+        x.beside(1, 3);
+        x.beside(3, 0);
         x.seen(NONE, 0, 0);
         x.seen(2, 1, 1);
         x.season(78, 9);
@@ -340,6 +349,17 @@ public final class EdgesGamesTest {
                 return x.back();
             });
         }
+        BreatheAsOne coughs = Halls.row(3, "passes 0;");
+        coughs.cough(1);
+        coughs.image();
+        coughs.undo();
+        coughs.beat(1);
+        coughs.cough(2);
+        coughs.cough(0);
+        coughs.back();
+        c.due("COUGHS", coughs.coughs(NONE, 0), 1);
+        c.due("who", coughs.coughs(0, 0), 1);
+        c.due("when", coughs.coughs(0, 1), 0);
         BreatheAsOne two = new BreatheAsOne();
         two.beat(1);
         two.image();

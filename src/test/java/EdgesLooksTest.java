@@ -280,6 +280,18 @@ public final class EdgesLooksTest {
         notSets(26, "hiccupped", (x, notes) -> x.hiccupped(notes, NONE));
     }
 
+    private static void asksAlone() {
+        c.sentence(24, "All that follows changes nothing");
+        for (Twins.Maker maker : new Twins.Maker[] {Halls.NEW, Halls.BUSY, Halls.FULL}) {
+            Twins.onlyAsks(c, "fell()", maker, x -> x.fell());
+            Twins.onlyAsks(c, "air(9999)", maker, x -> x.air(9999));
+            Twins.onlyAsks(c, "of(1, 6)", maker, x -> x.of(1, 6));
+            Twins.onlyAsks(c, "ofNote(1, 3)", maker, x -> x.ofNote(1, 3));
+            Twins.onlyAsks(c, "whoIsOut(0)", maker, x -> x.whoIsOut(0));
+            Twins.onlyAsks(c, "hiccupped(3, 2)", maker, x -> x.hiccupped(3, 2));
+        }
+    }
+
     public static void main(String[] args) {
         ofOthers();
         timeBySeat();
@@ -293,6 +305,7 @@ public final class EdgesLooksTest {
         isOut();
         hiccupped();
         hiccuppedNot();
+        asksAlone();
         c.finish();
     }
 }

@@ -95,6 +95,8 @@ public final class EdgesQuestionsTest {
         c.due("3 of 4 breathe: one note", x.seated(1, 2, NONE), 1);
         c.due("as they sit: both", x.seated(1, 1, NONE), 2);
         c.due("two for two others", x.seated(3, 12, NONE), 0);
+        c.due("those of other SEATS stay", x.seated(8, 8, NONE), 2);
+        c.due("the SEATS they had are empty", x.seated(12, 3, NONE), 0);
     }
 
     /** In each block one of chest 1 who is out without an usher and in with one. */
@@ -123,6 +125,14 @@ public final class EdgesQuestionsTest {
         c.due("all that hold by four", x.ushers(7), 15);
         c.due("for no notes", x.ushers(0), 0);
         c.due("for no notes in a new one", new BreatheAsOne().ushers(0), 0);
+        BreatheAsOne weighty = new BreatheAsOne();
+        for (int i = 0; i < 3; i++) {
+            weighty.seat(i, 1);
+            weighty.person(i == 2 ? 2 : 1, 1, 0);
+            weighty.sit(i, i);
+        }
+        weighty.note(0, 0);
+        c.due("one of 2 ahead of two of 1", weighty.ushers(1), 4);
         c.sentence(28, "NONE: none");
         c.due("above all air", x.ushers(16), NONE);
         c.due("two that never hold together", x.ushers(9), NONE);
@@ -166,8 +176,29 @@ public final class EdgesQuestionsTest {
         c.due("who HOLDS can be ASLEEP", z.cannot(), 0);
         z.by(Checks.text(z, "breath 1-2*asleep;holds air=0-1 and high=1;"));
         c.due("but not AWAKE: -2, -3, 0", z.cannot(), 7);
+        cannotByUshers();
         Twins.onlyAsks(c, "cannot()", Halls.BUSY, w -> w.cannot());
         Twins.onlyAsks(c, "cannot()", Halls.FULL, w -> w.cannot());
+    }
+
+    private static void cannotByUshers() {
+        for (int block = 0; block < 4; block++) {
+            BreatheAsOne x = new BreatheAsOne();
+            x.seat(block, 1);
+            x.person(1, 1, 0);
+            x.sit(0, 0);
+            x.be(0, 1);
+            for (int i = 0; i < 4; i++) x.note(0, 0);
+            // ASLEEP 1, AWAKE -1, AWAKE with an USHER 0; the last note would need 2.
+            x.by(Checks.text(x, "breath 2*asleep+time;holds air=note-1;"));
+            c.due("one of block " + block, x.cannot(), 8);
+        }
+        BreatheAsOne x = blocks();
+        x.be(0, 1);
+        for (int high = 0; high <= 4; high++) x.note(0, high);
+        // ASLEEP 5, AWAKE 1, AWAKE with an USHER 0: air 0 needs all USHERS and 0 AWAKE, 4 none and 0 AWAKE, 12 another one ASLEEP.
+        x.by(Checks.text(x, "breath 4*asleep-time;holds air=4*high;"));
+        c.due("all sets of USHERS", x.cannot(), 16);
     }
 
     private static void shift() {

@@ -293,6 +293,29 @@ public final class EdgesStepsTest {
         Twins.idle(c, "played(0)", Halls.NEW, -2, y -> y.played(0));
     }
 
+    private static void playsNumbers() {
+        c.sentence(16, "its CLAUSES but laws, in their order, as by hand");
+        BreatheAsOne x = new BreatheAsOne();
+        Checks.text(x, "seat 3 lag 9;one 9 pulse 8 start 17;one 1 pulse 2 start 3;seat 0 lag 1;note 9999 high 99;note 0 high 1;");
+        c.due("played", x.played(0), NONE);
+        int[][] people = {{9, 8, 17}, {1, 2, 3}};
+        for (int p = 0; p < 2; p++) for (int w = 0; w < 3; w++) c.due("of(" + p + ", " + w + ")", x.of(p, w), people[p][w]);
+        int[][] seats = {{3, 9}, {0, 1}};
+        for (int s = 0; s < 2; s++) for (int w = 0; w < 2; w++) c.due("ofSeat(" + s + ", " + w + ")", x.ofSeat(s, w), seats[s][w]);
+        int[][] notes = {{9999, 99}, {0, 1}};
+        for (int n = 0; n < 2; n++) for (int w = 0; w < 2; w++) c.due("ofNote(" + n + ", " + w + ")", x.ofNote(n, w), notes[n][w]);
+        c.due("what is told is no STEP", x.about(7), 0);
+        Checks.text(x, "sit 1 on 0;sit 0 on 1;hold 1;sleep 0;usher 3;beat 999;cough 1;");
+        c.due("played", x.played(1), NONE);
+        int[] due = {1, 0, 1, 2, 8, 999, 1};
+        int[] got = {x.of(0, 3), x.of(1, 3), x.of(0, 4), x.of(1, 4), x.about(8), x.about(3), x.coughs(0, 0)};
+        for (int i = 0; i < due.length; i++) c.due("clause " + i, got[i], due[i]);
+        Checks.text(x, "wake 0;wake 1;");
+        c.due("played", x.played(2), NONE);
+        c.due("AWAKE", x.of(0, 4) + x.of(1, 4), 0);
+        c.due("a STEP each", x.about(7), 9);
+    }
+
     /** In a full hall at BEAT 9999 with person 0 awake, 1 asleep, 2 holding and coughing, an usher in block 0. */
     private static void cannotBe() {
         c.sentence(16, "one that can't be ends it: its number among all CLAUSES (from 0)");
@@ -417,6 +440,11 @@ public final class EdgesStepsTest {
             x.season(seedOf(0, person, 0), 2);
             c.due("it has it", x.of(person, 3), 0);
         }
+        BreatheAsOne alone = new BreatheAsOne();
+        alone.seat(0, 0);
+        alone.person(1, 1, 0);
+        alone.season(seedOf(0, 0, 0), 2);
+        c.due("one PERSON, one SEAT", alone.of(0, 3), 0);
         c.sentence(17, "1 it IS x mod 3");
         BreatheAsOne x = four();
         for (int person = 1; person < 4; person += 2) {
@@ -561,6 +589,7 @@ public final class EdgesStepsTest {
         twentyCoughs();
         beats();
         plays();
+        playsNumbers();
         cannotBe();
         seasonBounds();
         seasonWithout();

@@ -30,6 +30,8 @@ public final class EdgesTextsTest {
         fault("beat 1;" + " ".repeat(293), 0);
         fault(" ".repeat(293) + "beat 1;", 0);
         fault(" ".repeat(294) + "beat 1", 1300);
+        fault(";".repeat(300), 1000);
+        fault("passes" + "(".repeat(294), 3014);
     }
 
     private static void blanks() {
@@ -140,8 +142,10 @@ public final class EdgesTextsTest {
         StringBuilder before = new StringBuilder();
         for (int i = 0; i < k; i++) before.append(parts[i]).append(' ');
         int wrong = 1000 + before.length();
-        for (String odd : new String[] {"!", "foo", ",", "on", "start", "\u00e9"}) {
-            if (!odd.equals(parts[k])) fault(before + odd + " ;", wrong);
+        for (String odd : new String[] {"!", "foo", ",", "on", "start", ";", "\u00e9"}) {
+            // A clause can end where it could go on; then the next ; is the wrong one.
+            boolean ends = odd.equals(";") && "or and * / %".contains(parts[k]);
+            if (!odd.equals(parts[k])) fault(before + odd + " ;", ends ? wrong + 2 : wrong);
         }
     }
 
@@ -187,6 +191,13 @@ public final class EdgesTextsTest {
         fault("holds " + "not ".repeat(8) + "1<2 or " + "not ".repeat(8) + "1<2 and " + "not ".repeat(8) + "1<2;", 0);
         fault("breath --------1---------2;", 0);
         fault("breath --------1----------2;", 3025);
+        for (String argument : new String[] {"", "1,", "1,2,"}) {
+            int place = 14 + argument.length();
+            String behind = argument.isEmpty() ? ",2,3);" : argument.length() == 2 ? ",3);" : ");";
+            fault("breath middle(" + argument + "-".repeat(7) + "1" + behind, 0);
+            fault("breath middle(" + argument + "-".repeat(8) + "1" + behind, 3007 + place);
+            fault("breath middle(" + argument + "(".repeat(8) + "1" + ")".repeat(8) + behind, 3007 + place);
+        }
         c.sentence(8, "the ( of middle is no other one");
         fault("breath (((((((middle(1,2,3))))))));", 0);
         fault("breath ((((((((middle(1,2,3)))))))));", 3015);
@@ -357,6 +368,70 @@ public final class EdgesTextsTest {
         }
     }
 
+    private static void namesOfPeople() {
+        c.sentence(19, "NAMES: beat, chest, pulse, time, block, asleep (1, 0) in breath");
+        BreatheAsOne x = new BreatheAsOne();
+        x.seat(3, 9);
+        x.person(9, 8, 17);
+        x.sit(0, 0);
+        x.beat(1);
+        Checks.text(x, "breath chest*10+pulse-94;");
+        Checks.text(x, "breath beat*100+time-105;");
+        Checks.text(x, "breath block*2-asleep;");
+        int[] awake = {4, 4, 6};
+        int[] asleep = {4, 0, 5};
+        for (int t = 0; t < 3; t++) {
+            x.by(t);
+            c.due("AWAKE by " + t, x.of(0, 6), awake[t]);
+            x.be(0, 1);
+            c.due("ASLEEP by " + t, x.of(0, 6), asleep[t]);
+            x.be(0, 0);
+        }
+        c.sentence(33, "NAMES in passes; lag (of its SEAT)");
+        BreatheAsOne y = new BreatheAsOne();
+        y.seat(3, 7);
+        y.seat(0, 0);
+        for (int i = 0; i < 2; i++) {
+            y.person(9, 8, 17);
+            y.sit(i, i);
+        }
+        y.usher(3, true);
+        y.by(Checks.text(y, "passes lag;"));
+        c.due("lag with an USHER", y.comes(0, 1, false), 7);
+        y.by(Checks.text(y, "passes time-10;"));
+        c.due("time with an USHER", y.comes(0, 1, false), 7);
+        y.by(Checks.text(y, "passes 1+8*asleep;"));
+        int[] due = {1, 9, 1};
+        for (int how : new int[] {1, 2, 0}) {
+            y.be(0, how);
+            c.due("asleep of one that is " + how, y.comes(0, 1, false), due[how]);
+        }
+        y.by(Checks.text(y, "passes chest+pulse+block+beat-17;"));
+        y.beat(4);
+        c.due("chest, pulse, block and beat", y.comes(0, 1, false), 7);
+    }
+
+    private static void namesOfNotes() {
+        c.sentence(21, "NAMES: air, high, note (its number), beat in holds");
+        String[] laws = {"note=11", "high=99", "beat=9999", "air=90", "air=0-90", "note+high+beat=11+99+9999"};
+        int[] due = {1, 1, 1, 0, 1, 1};
+        BreatheAsOne x = new BreatheAsOne();
+        for (int i = 0; i < 10; i++) {
+            x.seat(0, 0);
+            x.person(9, 1, 0);
+            x.sit(i, i);
+        }
+        for (int i = 0; i < 11; i++) x.note(0, i);
+        x.note(9999, 99);
+        x.image();
+        for (int i = 0; i < laws.length; i++) {
+            x.by(Checks.text(x, "holds " + laws[i] + ";"));
+            c.due("the last NOTE by " + laws[i], x.ofNote(11, 3), due[i]);
+            c.due("the first NOTE by " + laws[i], x.ofNote(0, 3), i == 3 ? 1 : 0);
+            x.back();
+        }
+    }
+
     private static void breathWithout() {
         c.sentence(19, "breath without: TIME mod twice PULSE (0 or more) below PULSE: CHEST, else CHEST with minus");
         for (int pulse : new int[] {1, 2, 9}) {
@@ -401,7 +476,18 @@ public final class EdgesTextsTest {
         c.sentence(21, "SUM one of < <= > >= = # (unlike) SUM");
         String[] signs = {"<", "<=", ">", ">=", "=", "#"};
         int[][] due = {{1, 0, 0}, {1, 1, 0}, {0, 0, 1}, {0, 1, 1}, {0, 1, 0}, {1, 0, 1}};
-        for (int s = 0; s < 6; s++) for (int h = 6; h <= 8; h++) holds(h + signs[s] + "high", due[s][h - 6]);
+        for (int s = 0; s < 6; s++) {
+            for (int h = 6; h <= 8; h++) {
+                String ask = h + signs[s] + "high";
+                int so = due[s][h - 6];
+                holds(ask, so);
+                holds("not " + ask, 1 - so);
+                holds("not not " + ask, so);
+                holds(ask + " and high=7", so);
+                holds("high#7 or " + ask, so);
+                holds("not " + ask + " or high#7", 1 - so);
+            }
+        }
         c.sentence(21, "EITHER: BOTH {or BOTH}. BOTH: ASK {and ASK}. ASK: not ASK");
         holds("1=1 or 1=1 and 1=2", 1);
         holds("1=2 and 1=1 or 1=1", 1);
@@ -435,6 +521,8 @@ public final class EdgesTextsTest {
         leftFirst();
         middles();
         bounds();
+        namesOfPeople();
+        namesOfNotes();
         breathWithout();
         holdsWithout();
         asks();
