@@ -485,6 +485,21 @@ public final class EdgesStepsTest {
         z.season(seed, 2);
         c.due("it does already", z.coughs(NONE, 0), 1);
         c.due("no draw for it", z.about(4), Halls.drawn(seed * 3 + 71, 2));
+        BreatheAsOne passing = Halls.row(4, "passes 0;");
+        passing.cough(who);
+        passing.by(Checks.text(passing, "passes 10;"));
+        passing.season(seed, 2);
+        c.due("it does already, so nothing is passed on", passing.coughs(NONE, 0), 1);
+        c.due("and nothing drawn", passing.about(4), Halls.drawn(seed * 3 + 71, 2));
+        BreatheAsOne many = Halls.row(10, "passes 10;");
+        for (int i = 0; i < 2; i++) {
+            many.cough(0);
+            many.beat(1);
+        }
+        seed = usherSeed();
+        c.due("a season's COUGH beyond 20", many.season(seed, 2), 2);
+        c.due("isn't kept", many.coughs(NONE, 0), 20);
+        c.due("but passed on", many.about(4), Halls.drawn(seed * 3 + 71, 2 + 9));
     }
 
     /** No beat goes by ahead of its cough. */

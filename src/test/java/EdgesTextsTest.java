@@ -462,6 +462,32 @@ public final class EdgesTextsTest {
         BreatheAsOne out = Halls.one(1, 1, 1, 0);
         out.note(0, 0);
         c.due("AIR -1, HIGH 0", out.ofNote(0, 3), 0);
+        c.sentence(21, "without: by a TEXT whose CLAUSES are no laws");
+        BreatheAsOne y = Halls.row(2, "beat 1;sleep 0;note 1 high 1;");
+        for (int high : new int[] {1, 2, 3}) y.note(0, high);
+        c.due("breath", y.of(0, 6), 1);
+        c.due("passes", y.comes(0, 1, false), 3);
+        c.due("holds by AIR 2", y.fell(), 4);
+    }
+
+    private static void fourLongOnes() {
+        c.sentence(7, "TEXTS 0 .. 3: of up to 300 bytes");
+        BreatheAsOne x = Halls.row(2, "");
+        x.note(0, 5);
+        String[] laws = {"breath 2", "passes 4", "holds 1", "breath 3"};
+        String[] ends = {";", ";", "=high-4;", ";"};
+        for (int t = 0; t < 4; t++) {
+            String law = laws[t] + "+1-1".repeat(71);
+            String blanks = " ".repeat(300 - law.length() - ends[t].length());
+            c.due("text of 300 bytes", Checks.text(x, law + blanks + ends[t]), t);
+        }
+        int[][] due = {{2, 3, 1}, {1, 4, 1}, {1, 3, 0}, {3, 3, 0}};
+        for (int t = 3; t >= 0; t--) {
+            x.by(t);
+            c.due("breath by " + t, x.of(0, 6), due[t][0]);
+            c.due("passes by " + t, x.comes(0, 1, false) * 10 / x.comes(0, 1, true), due[t][1]);
+            c.due("fell by " + t, x.fell(), due[t][2]);
+        }
     }
 
     /** A note 0 at beat 0, nobody there. */
@@ -500,6 +526,19 @@ public final class EdgesTextsTest {
         holds("not 1=1 or 1=1", 1);
         holds("not not 1=1", 1);
         holds("not not not 1=1", 0);
+        for (int row = 0; row < 8; row++) {
+            boolean a = (row & 4) != 0;
+            boolean b = (row & 2) != 0;
+            boolean d = (row & 1) != 0;
+            String[] s = {a ? "7=high" : "7>high", b ? "high=7" : "high<7", d ? "8>high" : "8<high"};
+            holds(s[0] + " or " + s[1], a || b ? 1 : 0);
+            holds(s[0] + " and " + s[1], a && b ? 1 : 0);
+            holds(s[0] + " or " + s[1] + " or " + s[2], a || b || d ? 1 : 0);
+            holds(s[0] + " and " + s[1] + " and " + s[2], a && b && d ? 1 : 0);
+            holds(s[0] + " or " + s[1] + " and " + s[2], a || b && d ? 1 : 0);
+            holds(s[0] + " and " + s[1] + " or " + s[2], a && b || d ? 1 : 0);
+            holds("not " + s[0] + " or " + s[1] + " and not " + s[2], !a || b && !d ? 1 : 0);
+        }
     }
 
     public static void main(String[] args) {
@@ -525,6 +564,7 @@ public final class EdgesTextsTest {
         namesOfNotes();
         breathWithout();
         holdsWithout();
+        fourLongOnes();
         asks();
         c.finish();
     }
