@@ -189,10 +189,10 @@ public final class BreatheAsOne {
     }
 
     public int played(int text) {
-        if (!house.hasText(text)) {
+        Text script = house.textOf(text);
+        if (script == null) {
             return REFUSED;
         }
-        Text script = house.texts[text];
         for (int clause = 0; clause < script.clauseCount; clause++) {
             if (!deeds.doClause(script, clause)) {
                 return clause;
@@ -477,8 +477,13 @@ public final class BreatheAsOne {
             return set > 0 && set < 1 << things && Integer.bitCount(set) <= MOST_IN_SET;
         }
 
+        /** The text of that number; null if there is none. */
+        Text textOf(int text) {
+            return hasText(text) ? texts[text] : null;
+        }
+
         Text rulingText() {
-            return hasText(ruling) ? texts[ruling] : null;
+            return textOf(ruling);
         }
 
         void copyFrom(House other) {
@@ -1411,7 +1416,7 @@ public final class BreatheAsOne {
             takeAirs();
             int laws = 0;
             for (int text = 0; text < house.textCount; text++) {
-                if (fallenBy(house.texts[text]) == notes) {
+                if (fallenBy(house.textOf(text)) == notes) {
                     laws |= 1 << text;
                 }
             }
